@@ -50,8 +50,7 @@ public final class FootOut {
     private static final int LATE = 3;
 
     /** A word's number is its place here; the TRAITS come first, then what a FACT may begin with. */
-    private static final String WORDS = "old pram foot eye two lamp hump paint near fast lane kind "
-            + "ahead beside passed in not and or lanes car at pace line gap waits sight stop if ";
+    private static final String WORDS = "old pram foot eye two lamp hump paint near fast lane kind ahead beside passed in not and or lanes car at pace line gap waits sight stop if ";
     private static final int W_OLD = 0;
     private static final int W_HUMP = 6;
     private static final int W_PAINT = 7;
@@ -85,7 +84,7 @@ public final class FootOut {
     private final State now = new State();
     private final State[] images = new State[IMAGES];
     private final boolean[] imaged = new boolean[IMAGES];
-    private final Road road = new Road();
+    private final Road road = new Road(now.scene, now.law);
     private final Tree tree = new Tree();
     /** Whether tree still tells THE SCENE and THE LAW as they are. */
     private boolean weighed;
@@ -437,7 +436,7 @@ public final class FootOut {
         spending.known = NONE;
         Places places = now.places;
         int p = places.size;
-        places.painted[p] = painted;
+        places.painted[p] = painted ? 1 : 0;
         places.old[p] = old;
         places.others[p] = others;
         places.hurtOld[p] = hurtOld;
@@ -465,7 +464,7 @@ public final class FootOut {
         }
         switch (what) {
             case 0:
-                return now.places.painted[p] ? 1 : 0;
+                return now.places.painted[p];
             case 1:
                 return now.places.old[p];
             case 2:
@@ -595,12 +594,14 @@ public final class FootOut {
         }
         int each = (p - q) * (p - q);
         int needed = 4 * (p * (1000 - p) + q * (1000 - q));
-        for (int n = 1; n <= 9999; n++) {
-            if ((long) n * each >= needed) {
-                return n;
-            }
+        if (needed == 0) {
+            return 1;
         }
-        return NONE;
+        if (each == 0) {
+            return NONE;
+        }
+        int n = (needed + each - 1) / each;
+        return n <= 9999 ? n : NONE;
     }
 
     public int shown(int a, int n, int b, int m) {
@@ -921,7 +922,7 @@ public final class FootOut {
     private static long commonDivisor(long a, long b) {
         long x = a;
         long y = b;
-        while (y != 0) {
+        for (int i = 0; i < 200 && y != 0; i++) {
             long rest = x % y;
             x = y;
             y = rest;
@@ -1095,7 +1096,7 @@ public final class FootOut {
     /** PLACES, and the MEASURES that can be had for them. */
     private static final class Places {
         int size;
-        final boolean[] painted = new boolean[PLACES_MOST];
+        final int[] painted = new int[PLACES_MOST];
         final int[] old = new int[PLACES_MOST];
         final int[] others = new int[PLACES_MOST];
         final int[] hurtOld = new int[PLACES_MOST];
@@ -1123,7 +1124,7 @@ public final class FootOut {
         int sumOf(int[] numbers, boolean ofPainted) {
             int sum = 0;
             for (int p = 0; p < size; p++) {
-                sum += painted[p] == ofPainted ? numbers[p] : 0;
+                sum += painted[p] != 0 == ofPainted ? numbers[p] : 0;
             }
             return sum;
         }
@@ -1284,9 +1285,17 @@ public final class FootOut {
             begin(from, n);
             law.clear();
             for (int i = 0; i <= n && token != END; i++) {
-                if (!readLawLine() || !takeSign(';')) {
+                if (isWord(W_STOP) && law.lines >= LAW_MOST) {
+                    return wrong(F_TOO_MANY);
+                }
+                if (!takeWord(W_STOP) || !takeNumber(0, 100)) {
                     return false;
                 }
+                int stopOf = taken;
+                if (!takeWord(W_IF) || !readTest(0) || !takeSign(';')) {
+                    return false;
+                }
+                law.endLine(stopOf);
             }
             return true;
         }
@@ -1371,68 +1380,45 @@ public final class FootOut {
             return true;
         }
 
-        private boolean readLawLine() {
-            if (token == WORD && value == W_STOP && law.lines >= LAW_MOST) {
-                return wrong(F_TOO_MANY);
-            }
-            if (!takeWord(W_STOP) || !takeNumber(0, 100)) {
-                return false;
-            }
-            int stopOf = taken;
-            if (!takeWord(W_IF) || !readTest(0)) {
-                return false;
-            }
-            law.endLine(stopOf);
-            return true;
-        }
-
         /** open: how many not and ( are open around it. */
         private boolean readTest(int open) {
-            if (!readPart(open)) {
-                return false;
-            }
-            for (int i = 0; i <= length && token == WORD && value == W_OR; i++) {
-                advance();
-                if (!readPart(open)) {
-                    return false;
-                }
-                law.addStep(W_OR, 0);
-            }
-            return true;
-        }
-
-        private boolean readPart(int open) {
-            if (!readFact(open)) {
-                return false;
-            }
-            for (int i = 0; i <= length && token == WORD && value == W_AND; i++) {
-                advance();
+            boolean behindOr = false;
+            boolean behindAnd = false;
+            for (int i = 0; i <= length; i++) {
                 if (!readFact(open)) {
                     return false;
                 }
-                law.addStep(W_AND, 0);
+                if (behindAnd) {
+                    law.addStep(W_AND, 0);
+                }
+                behindAnd = isWord(W_AND);
+                if (!behindAnd) {
+                    if (behindOr) {
+                        law.addStep(W_OR, 0);
+                    }
+                    behindOr = isWord(W_OR);
+                    if (!behindOr) {
+                        return true;
+                    }
+                }
+                advance();
             }
-            return true;
+            return false;
         }
 
         private boolean readFact(int open) {
             boolean opens = token == SIGN && value == '(';
-            boolean turns = token == WORD && value == W_NOT;
-            if ((opens || turns) && open >= OPEN_MOST) {
+            if ((opens || isWord(W_NOT)) && open >= OPEN_MOST) {
                 return wrong(F_TOO_DEEP);
             }
             if (opens) {
                 advance();
                 return readTest(open + 1) && takeSign(')');
             }
-            if (turns) {
+            if (isWord(W_NOT)) {
                 advance();
                 return readFact(open + 1) && law.addStep(W_NOT, 0);
             }
-            return readPlainFact();
-        }
-
-        private boolean readPlainFact() {
             if (token != WORD || value < 0 || value > W_IN) {
                 return misfit();
             }
@@ -1444,8 +1430,12 @@ public final class FootOut {
             return takeNumber(0, STEP - 1) && law.addStep(word, taken);
         }
 
+        private boolean isWord(int word) {
+            return token == WORD && value == word;
+        }
+
         private boolean takeWord(int word) {
-            if (token != WORD || value != word) {
+            if (!isWord(word)) {
                 return misfit();
             }
             advance();
@@ -1489,33 +1479,29 @@ public final class FootOut {
             }
             start = next;
             value = 0;
-            if (next >= length) {
-                token = END;
-            } else if (isDigit(bytes[next])) {
-                advanceNumber();
-            } else if (isLetter(bytes[next])) {
-                advanceWord();
-            } else {
-                value = bytes[next];
-                token = value == ';' || value == '(' || value == ')' ? SIGN : BAD;
-                next++;
-            }
-        }
-
-        private void advanceNumber() {
-            while (next < length && isDigit(bytes[next])) {
+            while (next < length && bytes[next] >= '0' && bytes[next] <= '9') {
                 value = next - start < DIGITS_MOST ? value * 10 + bytes[next] - '0' : value;
                 next++;
             }
-            token = next - start > DIGITS_MOST ? BAD : NUMBER;
-        }
-
-        private void advanceWord() {
-            while (next < length && isLetter(bytes[next])) {
+            if (next > start) {
+                token = next - start > DIGITS_MOST ? BAD : NUMBER;
+                return;
+            }
+            while (next < length && bytes[next] >= 'a' && bytes[next] <= 'z') {
                 next++;
             }
-            token = WORD;
-            value = wordNumber();
+            if (next > start) {
+                token = WORD;
+                value = wordNumber();
+                return;
+            }
+            if (next >= length) {
+                token = END;
+                return;
+            }
+            value = bytes[next];
+            token = value == ';' || value == '(' || value == ')' ? SIGN : BAD;
+            next++;
         }
 
         /** NONE for a word that is in no LINE. */
@@ -1535,14 +1521,6 @@ public final class FootOut {
                 }
             }
             return NONE;
-        }
-
-        private static boolean isDigit(byte b) {
-            return b >= '0' && b <= '9';
-        }
-
-        private static boolean isLetter(byte b) {
-            return b >= 'a' && b <= 'z';
         }
     }
 
@@ -1604,9 +1582,9 @@ public final class FootOut {
     /** The TICKS of one way it may go. */
     private static final class Road {
         final Choices choices = new Choices();
-        Scene scene = new Scene();
-        private Law law = new Law();
-        private int skipped;
+        Scene scene;
+        private Law law;
+        private int skipped = NONE;
         final int[] dist = new int[CARS_MOST];
         final int[] pace = new int[CARS_MOST];
         final int[] mind = new int[CARS_MOST];
@@ -1623,7 +1601,12 @@ public final class FootOut {
         int by;
         private int hit;
 
-        /** skipped: the line of THE LAW that does not count, or NONE. */
+        Road(Scene told, Law byLaw) {
+            scene = told;
+            law = byLaw;
+        }
+
+        /** withoutLine: the line of THE LAW that does not count, or NONE. */
         void begin(Scene told, Law byLaw, int withoutLine) {
             scene = told;
             law = byLaw;
@@ -1965,9 +1948,10 @@ public final class FootOut {
         }
 
         private void choose(int coin, int shift) {
-            long fewest = Long.MAX_VALUE;
-            long found = 0;
-            for (int i = 0; i < worthSize; i++) {
+            // The empty set costs nothing, so it is always worth its place and comes first.
+            long fewest = lefts[0] + least[coin];
+            long found = chosen[coin];
+            for (int i = 1; i < worthSize; i++) {
                 int set = worth[i];
                 int rest = coin - costs[set];
                 if (rest >= 0 && lefts[set] + least[rest] < fewest) {
