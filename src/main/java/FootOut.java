@@ -326,6 +326,9 @@ public final class FootOut {
                     most = overByTraits[traits];
                     found = bits;
                 }
+                if (most == otherTree.all) {
+                    return found;
+                }
             }
         }
         return found;

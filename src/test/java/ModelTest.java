@@ -8,6 +8,14 @@ public final class ModelTest {
             "fast", "lane", "kind", "ahead", "beside", "passed", "in", "not", "and", "or", "lanes", "car", "at", "pace",
             "line", "gap", "waits", "sight", "stop", "if", ";", "(", ")", "0", "1", "7", "99", "100", "101", "999", "1000",
             "x", "olds", "A", "#", "007");
+    /** Scenes whose best WAITS or GAP lies far up. */
+    private static final String[][] FAR = {
+        {"lanes 2;car 0 at 83 pace 3 kind 0;car 0 at 51 pace 3 kind 2;car 1 at 57 pace 3 kind 1;car 0 at 47 pace 2 kind 1;"
+            + "car 1 at 59 pace 2 kind 2;old;gap 17;sight 2;", "stop 70 if in;stop 73 if beside;"},
+        {"lanes 3;car 1 at 37 pace 2 kind 0;car 1 at 27 pace 1 kind 0;car 0 at 18 pace 3 kind 1;car 0 at 25 pace 1 kind 2;"
+            + "car 0 at 20 pace 2 kind 0;old;gap 18;sight 1;", "stop 40 if near 27;stop 69 if lane 0;"},
+        {"car 0 at 1 pace 2 kind 2;car 0 at 39 pace 2 kind 2;car 0 at 58 pace 2 kind 2;car 0 at 27 pace 1 kind 1;old;gap 8;sight 22;",
+            "stop 62 if not in;stop 0 if kind 1;"}};
     private static final Random RANDOM = new Random(20261118);
 
     public static void main(String[] args) throws Model.Fault {
@@ -17,6 +25,12 @@ public final class ModelTest {
         for (int i = 0; i < 1500; i++) {
             int cars = i % 50 == 0 ? 8 : RANDOM.nextInt(6);
             goesAlike(sceneText(cars), lawText());
+        }
+        for (String[] far : FAR) {
+            goesAlike(far[0], far[1]);
+            Model m = Model.readScene(far[0]);
+            m.law = Model.readLaw(far[1]);
+            searchesAlike(Check.with(far[0], far[1]), m, " of far '" + far[0] + "'");
         }
         Check.end();
     }

@@ -7,6 +7,7 @@ public final class PromiseTest {
         faultsOfScenes();
         faultsOfLaws();
         fault();
+        fullTape();
         car();
         trait();
         set();
@@ -228,6 +229,17 @@ public final class PromiseTest {
         due("fault(0) of a sound text", x.fault(0), 0);
         due("fault(1) of a sound text", x.fault(1), -1);
         due("none is counted", x.status(0), 1);
+    }
+
+    /** A text may fill THE TAPE, and end within a word. */
+    private static void fullTape() {
+        String old = "old;".repeat(99);
+        faulty(0, old + "line", 2, 400);
+        faulty(0, old + "wait", 2, 396);
+        faulty(0, old + "gap9", 2, 400);
+        faulty(0, "old;".repeat(98) + "gap 9999", 1, 396);
+        FootOut x = new FootOut();
+        due("100 lines", Check.scene(x, old + "eye;"), 100);
     }
 
     /** Promise 5. */
@@ -457,6 +469,11 @@ public final class PromiseTest {
         due("best(1): eye", x.best(1), 8);
         due("best(2): eye and two", x.best(2), 24);
         due("best(3): old or pram goes with them", x.best(3), 25);
+        Check.law(x, "stop 90 if paint;stop 70 if lamp;");
+        due("best(1): paint", x.best(1), 128);
+        Check.law(x, "stop 70 if lamp;");
+        due("best(1): lamp", x.best(1), 32);
+        Check.law(x, "stop 90 if eye and two;stop 70 if eye;stop 60 if two;stop 30 if foot;");
         due("best(4)", x.best(4), -3);
         due("best(-1)", x.best(-1), -3);
         due("the traits stay", x.count(2), 4);
@@ -582,6 +599,17 @@ public final class PromiseTest {
         Check.scene(x, "lanes 3;car 1 at 1 pace 1 kind 2;car 2 at 30 pace 1 kind 0;car 0 at 2 pace 1 kind 0;");
         Check.law(x, "stop 100 if lane 1 or lane 0;");
         due("over three", x.run(1, 0), 1);
+        // In TICK 2 the last car of lane 1 comes into SIGHT; by then the first of lane 0, and one of lane 1, are at 0.
+        String gone = "lanes 2;car 0 at 1 pace 2 kind 1;car 1 at 1 pace 2 kind 1;car 1 at 41 pace 1 kind 0;car 0 at 30 pace 3 kind 2;waits 60;gap 20;";
+        FootOut g = Check.with(gone, "stop 0 if kind 2;stop 100 if kind 1 or beside or ahead;");
+        due("stopped at 0", g.watch(1, 1, 0, 0), 0);
+        due("those at 0 are neither beside nor ahead", g.watch(1, 2, 2, 2), 1);
+        Check.law(g, "stop 0 if kind 1;stop 100 if passed;");
+        Check.scene(g, "lanes 2;car 0 at 2 pace 2 kind 1;car 1 at 41 pace 1 kind 0;waits 60;gap 20;");
+        due("gone on to 0", g.watch(1, 1, 0, 0), 0);
+        due("one at 0 has not passed", g.watch(1, 2, 1, 2), 1);
+        Check.scene(g, "lanes 2;car 0 at 3 pace 2 kind 1;car 1 at 41 pace 1 kind 0;waits 60;gap 20;");
+        due("one at 1 has", g.watch(1, 2, 1, 2), 2);
         // It needs 3 TICKS: GAP 3 holds her back, GAP 2 doesn't.
         FootOut y = Check.with("car 0 at 9 pace 4 kind 0;gap 3;", "");
         due("ticks at GAP 3", y.run(1, 1), 4);
@@ -727,6 +755,10 @@ public final class PromiseTest {
         due("both", x.spent(198, -1), 0);
         due("what both cost", x.spent(999, 20), 198);
         due("back to less coin", x.spent(99, 20), 99);
+        x.measure(3, 99, 100);
+        due("a measure that leaves all", x.spent(999, 0), 0);
+        due("is bought nowhere", x.spent(999, 1), 0);
+        x.measure(3, 99, 0);
         x.measure(0, 10, 33);
         x.measure(1, 10, 33);
         due("of like sets the least", x.spent(10, 1), 1);
@@ -1043,6 +1075,7 @@ public final class PromiseTest {
         x.pay(1, 0, 3, 50);
         x.write(0, 0, 77);
         due("image(0)", x.image(0), 0);
+        due("spent otherwise", x.spent(999, -1), 49500 + 19800);
         due("fault of the latest text", Check.scene(x, "?"), -31);
         x.feed(1, 2, 3, 4, 5);
         due("restore(1)", x.restore(1), 0);
@@ -1054,7 +1087,10 @@ public final class PromiseTest {
         due("chance", x.chance(0), 40);
         due("odds(0)", x.odds(0), over);
         due("odds(3)", x.odds(3), ticks);
-        due("behind", x.at(0, 5), 3);
+        int[] place = {1, 10, 10, 4, 1, 3};
+        for (int what = 0; what < 6; what++) {
+            due("at(0, " + what + ")", x.at(0, what), place[what]);
+        }
         due("spent", x.spent(5, -1), 25000);
         due("pay", x.pay(1, 0, 3, -7), -7);
         due("rows are not in it", x.filled(0, 0), 77);
@@ -1062,6 +1098,7 @@ public final class PromiseTest {
         due("status stays", x.status(2), 1);
         due("restore(0)", x.restore(0), 0);
         due("no cars", x.count(1), 0);
+        due("the second place", x.at(1, 4), 1);
         due("places", x.count(8), 2);
         due("pay", x.pay(1, 0, 3, 50), 50);
         due("cost", x.spent(98, 20), 0);
