@@ -191,7 +191,7 @@ public final class FootOut {
         if (!isCar(c)) {
             return refuse(NO_SUCH);
         }
-        road.begin(now.scene, now.law, NONE);
+        road.begin(now.scene, NONE);
         return road.percentFor(c);
     }
 
@@ -199,7 +199,7 @@ public final class FootOut {
         if (!isCar(c)) {
             return refuse(NO_SUCH);
         }
-        road.begin(now.scene, now.law, NONE);
+        road.begin(now.scene, NONE);
         return road.hasRoom(c) ? 1 : 0;
     }
 
@@ -300,7 +300,7 @@ public final class FootOut {
         weighNow();
         otherScene.take(now.scene);
         otherScene.traits ^= 1 << trait;
-        otherTree.weigh(road, otherScene, now.law, NONE);
+        otherTree.weigh(road, otherScene, NONE);
         return otherTree.over - tree.over;
     }
 
@@ -319,7 +319,7 @@ public final class FootOut {
                 int traits = (now.scene.traits ^ bits) & asked;
                 if (overByTraits[traits] < 0) {
                     otherScene.traits = traits;
-                    otherTree.weigh(road, otherScene, now.law, NONE);
+                    otherTree.weigh(road, otherScene, NONE);
                     overByTraits[traits] = otherTree.over;
                 }
                 if (overByTraits[traits] > most) {
@@ -341,7 +341,7 @@ public final class FootOut {
         otherScene.take(now.scene);
         for (int line = 0; line <= LINE_MOST; line++) {
             otherScene.line = line;
-            otherTree.weigh(road, otherScene, now.law, NONE);
+            otherTree.weigh(road, otherScene, NONE);
             long all = otherTree.all;
             // most times all may be beyond a long; all is parted to keep it within.
             long allowed = all / 1000 * most + all % 1000 * most / 1000;
@@ -362,7 +362,7 @@ public final class FootOut {
         int found = 0;
         for (int v = 0; v <= last; v++) {
             otherScene.change(what == 0 ? 2 : 1, v);
-            otherTree.weigh(road, otherScene, now.law, NONE);
+            otherTree.weigh(road, otherScene, NONE);
             if (otherTree.over > most) {
                 most = otherTree.over;
                 found = v;
@@ -397,7 +397,7 @@ public final class FootOut {
             return refuse(NO_SUCH);
         }
         weighNow();
-        otherTree.weigh(road, now.scene, now.law, k);
+        otherTree.weigh(road, now.scene, k);
         return otherTree.over - tree.over;
     }
 
@@ -408,13 +408,13 @@ public final class FootOut {
         weighNow();
         otherScene.take(now.scene);
         otherScene.leaveOut(c);
-        otherTree.weigh(road, otherScene, now.law, NONE);
+        otherTree.weigh(road, otherScene, NONE);
         return 100 * otherTree.knocked - tree.knocked;
     }
 
     public int margin(int seed) {
         road.choices.drawFrom(seed);
-        road.begin(now.scene, now.law, NONE);
+        road.begin(now.scene, NONE);
         int least = NONE;
         for (int t = 0; t < TICKS_MOST && road.end == 0; t++) {
             road.tick();
@@ -908,7 +908,7 @@ public final class FootOut {
 
     private void play(int seed, int most) {
         road.choices.drawFrom(seed);
-        road.begin(now.scene, now.law, NONE);
+        road.begin(now.scene, NONE);
         for (int t = 0; t < most && road.end == 0; t++) {
             road.tick();
         }
@@ -916,7 +916,7 @@ public final class FootOut {
 
     private void weighNow() {
         if (!weighed) {
-            tree.weigh(road, now.scene, now.law, NONE);
+            tree.weigh(road, now.scene, NONE);
             weighed = true;
         }
     }
@@ -1586,7 +1586,7 @@ public final class FootOut {
     private static final class Road {
         final Choices choices = new Choices();
         Scene scene;
-        private Law law;
+        private final Law law;
         private int skipped = NONE;
         final int[] dist = new int[CARS_MOST];
         final int[] pace = new int[CARS_MOST];
@@ -1610,9 +1610,8 @@ public final class FootOut {
         }
 
         /** withoutLine: the line of THE LAW that does not count, or NONE. */
-        void begin(Scene told, Law byLaw, int withoutLine) {
+        void begin(Scene told, int withoutLine) {
             scene = told;
-            law = byLaw;
             skipped = withoutLine;
             boolean hump = told.hasTrait(W_HUMP);
             for (int c = 0; c < told.cars; c++) {
@@ -1867,12 +1866,12 @@ public final class FootOut {
         final long[] knockedBy = new long[CARS_MOST];
         final long[] stopping = new long[CARS_MOST];
 
-        void weigh(Road road, Scene scene, Law law, int withoutLine) {
+        void weigh(Road road, Scene scene, int withoutLine) {
             clear(scene.cars);
             road.choices.goAllWays();
             boolean more = true;
             for (int leaf = 0; more && leaf < LEAVES_MOST; leaf++) {
-                road.begin(scene, law, withoutLine);
+                road.begin(scene, withoutLine);
                 for (int t = 0; t < TICKS_MOST && road.end == 0; t++) {
                     road.tick();
                 }

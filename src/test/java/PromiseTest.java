@@ -117,6 +117,10 @@ public final class PromiseTest {
         due("a new scene", Check.scene(x, ""), 0);
         due("gap as without", x.count(4), 3);
         due("traits as without", x.count(2), 0);
+        due("line as without", x.count(3), 0);
+        due("waits as without", x.count(5), 20);
+        due("sight as without", x.count(6), 40);
+        due("lanes as without", x.count(0), 1);
         x.feed(0x6f6c643b, 0x6f6c643b, 0x20202020, 0x20202020, 0x20202020);
         due("what 2", x.text(2, 4), -2);
         due("what -1", x.text(-1, -1), -2);
@@ -150,6 +154,11 @@ public final class PromiseTest {
         faulty(0, "old;" + (char) 233, 1, 4);
         faulty(0, "gap 0001;", 1, 4);
         faulty(0, "gap 12345", 1, 4);
+        faulty(0, "z;", 2, 0);
+        faulty(0, "`;", 1, 0);
+        faulty(0, "{;", 1, 0);
+        faulty(0, "gap /;", 1, 4);
+        faulty(0, "gap :;", 1, 4);
         faulty(0, ";", 2, 0);
         faulty(0, "old;;", 2, 4);
         faulty(0, "5;", 2, 0);
@@ -309,6 +318,10 @@ public final class PromiseTest {
         Check.law(x, "stop 10 if not kind 2 and lane 1;stop 20 if not (kind 2 and lane 1);");
         due("not binds nearest", x.chance(1), 10);
         due("not of a TEST", x.chance(0), 20);
+        for (int i = 0; i < 60; i++) {
+            Check.law(x, "stop " + i + " if not lane 0 and (near 60 or near 70 or near 80) and not (kind 1 or kind 2);");
+            due("law " + i + " of many", x.chance(1), i);
+        }
     }
 
     /** Promise 9. */
@@ -420,6 +433,7 @@ public final class PromiseTest {
         due("tries harm", x.tries(Integer.MAX_VALUE - 20, 60, 4), harm);
         due("harm is 9 each", harm, 9 * (60 - over));
         due("tries ticks", x.tries(Integer.MAX_VALUE - 20, 60, 5), ticks);
+        due("one try", x.tries(1, 1, 5), x.run(1, 1));
         due("tries how 0", x.tries(0, 0, 0), -2);
         due("tries how 6", x.tries(0, 61, 6), -2);
         due("tries n 0", x.tries(0, 0, 1), -3);
@@ -451,11 +465,36 @@ public final class PromiseTest {
                 + "car 1 at 60 pace 1 kind 0;car 1 at 80 pace 1 kind 0;car 1 at 100 pace 1 kind 0;gap 20;", "");
         due("all late", late.odds(2), 1000000000000L);
         due("late ticks", late.odds(3), 99000000000000L);
+        // The first car decides at once: now and then it stops, far off.
+        Check.law(late, "stop 25 if not near 100;");
+        late.set(3, 200);
+        due("late by both ways", late.odds(2), 1000000000000L);
+        late.set(1, 0);
+        due("no more late", late.odds(2), 0);
+        due("but over", late.odds(0), 1000000000000L);
+        // Sums are made anew for a changed scene.
+        FootOut again = Check.with("car 0 at 3 pace 3 kind 0;gap 0;waits 0;", "");
+        due("knocked by it", again.blame(0, 0), 100);
+        again.trait(6, true);
+        due("still", again.blame(0, 0), 100);
+        Check.scene(again, "car 0 at 9 pace 3 kind 0;gap 0;waits 0;");
+        due("no more knocked by it", again.blame(0, 0), 0);
+        due("nor knocked", again.odds(1), 0);
+        due("nor harmed", again.odds(4), 0);
     }
 
     /** Promises 15, 16. */
     private static void helpsAndBest() {
-        FootOut x = Check.with("car 0 at 12 pace 3 kind 0;gap 20;waits 3;foot;",
+        String scene = "car 0 at 12 pace 3 kind 0;gap 20;waits 3;foot;";
+        String law = "stop 70 if eye;stop 30 if foot;";
+        due("helps(3) first of all", Check.with(scene, law).helps(3), 40);
+        due("best(1) first of all", Check.with(scene, law).best(1), 8);
+        due("back(700) first of all", Check.with(scene, law).back(700), 0);
+        due("wise(0) first of all", Check.with(scene, law).wise(0), 0);
+        due("absent(0) first of all", Check.with(scene, law).absent(0), -70);
+        due("repeals(1) first of all", Check.with(scene, law).repeals(1), -30);
+        due("mean(1) first of all", Check.with(scene, law).mean(1), 10);
+        FootOut x = Check.with(scene,
                 "stop 90 if eye and two;stop 70 if eye;stop 60 if two;stop 30 if foot;");
         due("now", x.odds(0), 30);
         due("helps(2): without foot", x.helps(2), -30);
@@ -501,6 +540,12 @@ public final class PromiseTest {
         FootOut f = Check.with("lanes 2;car 0 at 2 pace 1 kind 2;car 1 at 10 pace 5 kind 0;", "stop 100 if kind 2;");
         due("back(0)", f.back(0), 3);
         due("back(1000)", f.back(1000), 0);
+        // With a LINE of 30 car 0 can't stop; car 1 stops as it sees that, and knocks her down in TICK 8 else.
+        FootOut g = Check.with("lanes 4;car 0 at 29 pace 1 kind 0;car 3 at 66 pace 9 kind 0;old;gap 0;sight 200;",
+                "stop 100 if lane 0;stop 100 if passed;");
+        due("in TICK 8", g.run(1, 1), 8);
+        due("she is knocked", g.run(1, 3), 1);
+        due("back(0), the greatest LINE", g.back(0), 30);
     }
 
     /** Promise 18. */
@@ -716,6 +761,11 @@ public final class PromiseTest {
         due("worst(1, 4)", x.worst(1, 4), -1000000);
         due("worst(1, -1)", x.worst(1, -1), -1000000);
         due("status(0)", x.status(0), 6);
+        FootOut y = new FootOut();
+        y.place(true, 300, 300, 300, 300);
+        y.place(true, 0, 0, 0, 0);
+        due("600 apart", y.worst(1, 3), 2);
+        due("its fall", y.worst(1, 1), 600);
     }
 
     /** Promise 30. */
@@ -739,6 +789,7 @@ public final class PromiseTest {
         FootOut x = new FootOut();
         x.place(true, 10, 0, 7, 0);
         x.place(true, 10, 0, 7, 0);
+        due("without coin", x.spent(0, -1), 140000);
         due("measures at first help nothing", x.spent(999, -1), 140000);
         due("and aren't bought", x.spent(999, 20), 0);
         due("measure(4, 0, 0)", x.measure(4, 0, 0), -2);
@@ -780,6 +831,15 @@ public final class PromiseTest {
         due("all three", y.spent(3, 0), 7);
         y.place(false, 1, 0, 1, 0);
         due("one more place", y.spent(2, -1), 6600);
+        FootOut z = new FootOut();
+        due("no place, no coin", z.spent(0, -1), 0);
+        z.place(false, 1, 0, 1, 0);
+        due("a place, no coin", z.spent(0, -1), 10000);
+        z.image(0);
+        z.place(false, 2, 0, 2, 0);
+        due("two places, no coin", z.spent(0, -1), 30000);
+        z.restore(0);
+        due("a place again, no coin", z.spent(0, -1), 10000);
     }
 
     /** Promises 33, 34. */
@@ -870,6 +930,13 @@ public final class PromiseTest {
         due("g 10", x.clumps(0, 10, 10, 0), -3);
         x.write(0, 3, 10000);
         due("a number above", x.clumps(0, 10, 5, 0), -3);
+        x.write(0, 3, 0);
+        x.write(0, 0, 10000);
+        due("the first above", x.clumps(0, 10, 5, 0), -3);
+        x.write(0, 0, 0);
+        x.write(0, 6, -1);
+        due("the last below", x.clumps(0, 10, 5, 0), -3);
+        x.write(0, 6, 0);
         x.write(0, 3, -1);
         due("a number below", x.clumps(0, 10, 5, 0), -3);
         due("row 4", x.clumps(4, 10, 5, 0), -2);
@@ -1076,6 +1143,7 @@ public final class PromiseTest {
         x.write(0, 0, 77);
         due("image(0)", x.image(0), 0);
         due("spent otherwise", x.spent(999, -1), 49500 + 19800);
+        due("odds otherwise", x.odds(5), 1);
         due("fault of the latest text", Check.scene(x, "?"), -31);
         x.feed(1, 2, 3, 4, 5);
         due("restore(1)", x.restore(1), 0);
@@ -1104,6 +1172,20 @@ public final class PromiseTest {
         due("cost", x.spent(98, 20), 0);
         due("again restore(1)", x.restore(1), 0);
         due("it is not used up", x.count(1), 1);
+        FootOut y = new FootOut();
+        y.image(0);
+        y.place(true, 5, 6, 1, 2);
+        y.behind(0, 9);
+        y.image(1);
+        y.restore(0);
+        due("none", y.count(8), 0);
+        due("another one", y.place(false, 50, 60, 10, 20), 0);
+        due("has none behind", y.at(0, 5), 0);
+        y.restore(1);
+        int[] first = {1, 5, 6, 1, 2, 9};
+        for (int what = 0; what < 6; what++) {
+            due("the first one's " + what, y.at(0, what), first[what]);
+        }
         due("image(2)", x.image(2), -2);
         due("image(-1)", x.image(-1), -2);
         due("restore(2)", x.restore(2), -2);
