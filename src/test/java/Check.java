@@ -56,6 +56,14 @@ final class Check {
         return x;
     }
 
+    /** A ROW OF NUMBERS of a sort with these. */
+    static void fill(FootOut x, int row, int sort, long... values) {
+        due("numbers(" + row + ", " + sort + ", " + values.length + ")", x.numbers(row, sort, values.length), 0);
+        for (int i = 0; i < values.length; i++) {
+            x.write(row, i, values[i]);
+        }
+    }
+
     static void end() {
         System.out.println(wrong == 0 ? asked + " answers are as due" : wrong + " of " + asked + " answers are not as due");
         if (wrong != 0) {

@@ -901,24 +901,17 @@ public final class PromiseTest {
         due("status(1)", x.status(1), 11);
     }
 
-    private static void fill(FootOut x, int row, int sort, long... values) {
-        x.numbers(row, sort, values.length);
-        for (int i = 0; i < values.length; i++) {
-            x.write(row, i, values[i]);
-        }
-    }
-
     /** Promise 37. */
     private static void clumps() {
         FootOut x = new FootOut();
         due("missing", x.clumps(0, 1, 1, 0), -6);
         due("what ahead of missing", x.clumps(0, 10, 1, 3), -2);
-        fill(x, 0, 2);
+        Check.fill(x, 0, 2);
         for (int what = 0; what < 3; what++) {
             due("of no numbers", x.clumps(0, 10, 5, what), 0);
         }
         // 9999 goes at 10000, 0 and 20 at once, 15 and 16 at 20 with it, 13 and 13 at once.
-        fill(x, 0, 2, 9999, 0, 20, 15, 16, 13, 13);
+        Check.fill(x, 0, 2, 9999, 0, 20, 15, 16, 13, 13);
         due("waited", x.clumps(0, 10, 5, 0), 1 + 5 + 4);
         due("greatest", x.clumps(0, 10, 5, 1), 3);
         due("how many", x.clumps(0, 10, 5, 2), 4);
@@ -1034,9 +1027,9 @@ public final class PromiseTest {
     private static void filled() {
         FootOut x = new FootOut();
         due("missing", x.filled(0, 99), -6);
-        fill(x, 0, 3);
+        Check.fill(x, 0, 3);
         due("of no numbers", x.filled(0, 0), -7);
-        fill(x, 0, 3, -5, -1, 7, -1, -2, 1000000, -9, 0, Long.MIN_VALUE);
+        Check.fill(x, 0, 3, -5, -1, 7, -1, -2, 1000000, -9, 0, Long.MIN_VALUE);
         long[] due = {7, 7, 7, 500003, 500003, 1000000, 500000, 0, 0};
         for (int i = 0; i < due.length; i++) {
             due("filled(0, " + i + ")", x.filled(0, i), due[i]);
@@ -1048,7 +1041,7 @@ public final class PromiseTest {
         due("no such number first", x.filled(0, 9), -7);
         due("row 4", x.filled(4, 0), -2);
         due("row -1", x.filled(-1, 0), -2);
-        fill(x, 1, 0, -1, -2, -3);
+        Check.fill(x, 1, 0, -1, -2, -3);
         due("none is there", x.filled(1, 2), -1);
         due("which isn't refused", x.status(0), 2);
     }
@@ -1056,29 +1049,29 @@ public final class PromiseTest {
     /** Promise 43. */
     private static void slip() {
         FootOut x = new FootOut();
-        fill(x, 0, 2, 3, 1, 4, 1, 5, 9, 2);
-        fill(x, 1, 2, 8, 8, 8, 3, 1, 4, 1);
+        Check.fill(x, 0, 2, 3, 1, 4, 1, 5, 9, 2);
+        Check.fill(x, 1, 2, 8, 8, 8, 3, 1, 4, 1);
         due("3 further", x.slip(0, 1), 3);
         due("3 back", x.slip(1, 0), -3);
-        fill(x, 2, 2, 5, 5, 5, 5);
-        fill(x, 3, 2, 5, -1, 5);
+        Check.fill(x, 2, 2, 5, 5, 5, 5);
+        Check.fill(x, 3, 2, 5, -1, 5);
         due("of like ones 0", x.slip(2, 3), 0);
-        fill(x, 2, 2, 0, 8, 0);
-        fill(x, 3, 2, 8, 0, 8);
+        Check.fill(x, 2, 2, 0, 8, 0);
+        Check.fill(x, 3, 2, 8, 0, 8);
         due("then that below 0", x.slip(2, 3), -1);
         // By how many these are: at 0 it is 6 by 2, at 1 and -1 5 and 4 by 1; at 2 none is shared.
-        fill(x, 2, 2, 1, 5);
-        fill(x, 3, 2, 6, 6);
+        Check.fill(x, 2, 2, 1, 5);
+        Check.fill(x, 3, 2, 6, 6);
         due("by how many", x.slip(2, 3), -1);
-        fill(x, 2, 3, 1);
-        fill(x, 3, 0, 1);
+        Check.fill(x, 2, 3, 1);
+        Check.fill(x, 3, 0, 1);
         due("one and one", x.slip(2, 3), 0);
-        fill(x, 3, 2, 1000001);
+        Check.fill(x, 3, 2, 1000001);
         due("one above", x.slip(2, 3), -100);
         due("the other way", x.slip(3, 2), -100);
-        fill(x, 3, 2);
+        Check.fill(x, 3, 2);
         due("none there", x.slip(2, 3), -100);
-        fill(x, 3, 2, -1, -1);
+        Check.fill(x, 3, 2, -1, -1);
         due("all missing", x.slip(3, 2), -100);
         due("row 4", x.slip(4, 0), -100);
         due("row -1", x.slip(0, -1), -100);
@@ -1128,7 +1121,7 @@ public final class PromiseTest {
         x.behind(0, 3);
         x.measure(2, 5, 50);
         x.pay(1, 0, 3, -7);
-        fill(x, 0, 0, 1, 2);
+        Check.fill(x, 0, 0, 1, 2);
         long over = x.odds(0);
         long ticks = x.odds(3);
         due("image(1)", x.image(1), 0);
