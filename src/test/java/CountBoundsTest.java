@@ -286,6 +286,7 @@ public final class CountBoundsTest {
         for (int t = 0; t <= 10; t++) {
             Check.fill(x, 0, 1, t);
             due("who comes at " + t, x.clumps(0, 10, 4, 0), waits[t]);
+            due("goes alone", x.clumps(0, 10, 4, 1), 1);
             Check.fill(x, 0, 1, t, 10);
             due(t + " with who comes at 10", x.clumps(0, 10, 4, 1), t >= 4 ? 2 : 1);
             due("so many", x.clumps(0, 10, 4, 2), t >= 4 ? 1 : 2);
@@ -455,6 +456,9 @@ public final class CountBoundsTest {
         due("19800 by 10000", x.thanks(3, 66, 100, 0, 1), 1);
         // 9999990000, and 100, by 10000.
         due("both added, then by 10000", x.thanks(999999, 100, 100, 1, 1), 999999);
+        // 1, and 9999999900, by 10000; 77, and 4999999950, by 10000.
+        due("one more would be more", x.thanks(1, 1, 1, 100, 1), 999999);
+        due("one less would be less", x.thanks(1, 1, 77, 50, 1), 500000);
         due("7 by 13 by 17 and 99999909 by 19", x.thanks(7, 13, 17, 19, 1), (7 * 13 * 17 + 99999909L * 19) / 10000);
         int s = 123456;
         for (int n = 0; n <= 99; n++) {
@@ -553,12 +557,15 @@ public final class CountBoundsTest {
         Check.fill(x, 1, 3, -1, -1);
         due("none there", x.slip(1, 0), -100);
         due("to none there", x.slip(0, 1), -100);
+        Check.fill(x, 1, 3, -1);
+        due("the only one isn't there", x.slip(1, 0), -100);
+        due("to one that isn't", x.slip(0, 1), -100);
         for (long above : new long[] {1000001, Long.MAX_VALUE}) {
             Check.fill(x, 1, 3, 1, above, 2);
             due("one above", x.slip(1, 0), -100);
             due("to one above", x.slip(0, 1), -100);
         }
-        due("counted as -2", x.status(0), refused + 10);
+        due("counted as -2", x.status(0), refused + 12);
         due("not as another", x.status(1) + x.status(3) + x.status(4), 0);
     }
 
@@ -622,6 +629,13 @@ public final class CountBoundsTest {
         Check.fill(x, 0, 1, 1, 4);
         Check.fill(x, 1, 1, 2, 6);
         due("3 by 2 is less than 2 by 1", x.slip(0, 1), 0);
+        // At 0 5 by 3, at -1 3 by 2, at 1 4 by 2, at -2 1 by 1, at 2 2 by 1.
+        Check.fill(x, 0, 1, 0, 0, 0);
+        Check.fill(x, 1, 1, 1, 2, 2);
+        due("1 by 1 is less than 3 by 2", x.slip(0, 1), -2);
+        // At 0 5 by 3, at -1 3 by 2, at 1 2 by 2, at -2 3 by 1, at 2 2 by 1.
+        Check.fill(x, 1, 1, 3, 0, 2);
+        due("2 by 2 is the least", x.slip(0, 1), 1);
     }
 
     /** ROW 0 to 3, sort 0 to 3, n 0 to 40. */

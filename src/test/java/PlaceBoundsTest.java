@@ -23,6 +23,7 @@ public final class PlaceBoundsTest {
         coinBounds();
         likeSpendings();
         onceAtMost();
+        allSixteen();
         spentOfTwelve();
         Check.end();
     }
@@ -329,6 +330,13 @@ public final class PlaceBoundsTest {
             due("ranked(" + far + ")", x.ranked(far), -1);
         }
         due("NONE is no refusal", x.status(0) + x.status(1), 0);
+        FootOut y = hurt(12, 11, 10, 9, 8, 7, 6, 5, 4, 3, 2, 1);
+        FootOut z = hurt(1, 2, 3, 4, 5, 6, 7, 8, 9, 10, 11, 12);
+        for (int k = 0; k < 12; k++) {
+            due("ranked(" + k + ") of twelve", y.ranked(k), k);
+            due("ranked(" + k + ") of twelve more and more", z.ranked(k), 11 - k);
+        }
+        due("ranked(12)", y.ranked(12), -1);
     }
 
     /** COST 1 to 99, leaves 0 to 100, MEASURES 0 to 3. */
@@ -461,6 +469,20 @@ public final class PlaceBoundsTest {
         FootOut x = hurt(hurt);
         x.measure(0, 1, 50);
         return x;
+    }
+
+    /** Each of the sets of MEASURES may be the best one. */
+    private static void allSixteen() {
+        FootOut x = hurt(100);
+        int[] left = {99, 97, 92, 80};
+        for (int m = 0; m < 4; m++) {
+            x.measure(m, 1 << m, left[m]);
+        }
+        for (int coin = 0; coin < 16; coin++) {
+            due("for " + coin, x.spent(coin, 0), coin);
+            due("it costs", x.spent(coin, 20), coin);
+        }
+        due("no more", x.spent(999, 20), 15);
     }
 
     /** The full list of PLACES with all MEASURES: 12 times 4. */

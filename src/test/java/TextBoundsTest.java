@@ -29,6 +29,7 @@ public final class TextBoundsTest {
         leastKind();
         theEnd();
         openOnes();
+        oneBehindTheOther();
         whatThereWasStays();
         latestText();
         carAsTold();
@@ -404,7 +405,7 @@ public final class TextBoundsTest {
             faulty(0, word + ";", 2, 0);
             faulty(1, word + ";", 2, 0);
         }
-        for (String word : new String[] {"lanes", "car", "at", "pace", "line", "gap", "waits", "sight", "stop", "if", "and", "or"}) {
+        for (String word : new String[] {"a", "z", "road", "olds", "lanes", "car", "at", "pace", "line", "gap", "waits", "sight", "stop", "if", "and", "or"}) {
             faulty(1, "stop 5 if " + word + ";", 2, 10);
         }
     }
@@ -420,6 +421,15 @@ public final class TextBoundsTest {
         due("it is 5", Check.with("gap 005;", "").count(4), 5);
         due("it is 10", Check.with("gap 10;", "").count(4), 10);
         due("it is 200", Check.with("sight 200;", "").count(6), 200);
+        for (int n : new int[] {0, 1, 7, 8, 15, 16, 999}) {
+            faulty(0, n + ";", 2, 0);
+            faulty(0, "old;" + n + ";", 2, 4);
+            faulty(1, n + ";", 2, 0);
+            faulty(1, "stop 1 if " + n + ";", 2, 10);
+            faulty(1, "stop 1 if not " + n + ";", 2, 14);
+            faulty(1, "stop 1 if (" + n + ");", 2, 11);
+            faulty(1, "stop 1 if old or " + n + ";", 2, 17);
+        }
         faulty(0, "gap 1 0;", 2, 6);
         faulty(0, "gap -5;", 1, 4);
         faulty(0, "gap 5x;", 2, 5);
@@ -523,6 +533,30 @@ public final class TextBoundsTest {
         due("seven times not", x.chance(0), 8);
         due("no TEST is so", Check.law(x, "stop 9 if not near 2;"), 1);
         due("none: 0", x.chance(0), 0);
+    }
+
+    /** A text is in place of the one before it, however long that was. */
+    private static void oneBehindTheOther() {
+        FootOut x = Check.with(CAR, "");
+        for (int i = 1; i <= 30; i++) {
+            due("a long LAW", Check.law(x, "stop 9 if near 0" + " or near 1".repeat(38) + ";"), 1);
+            due("is not so", x.chance(0), 0);
+            Check.isTrue("a FAULT", Check.law(x, "stop 9 if near 2" + " or near 2".repeat(30) + ";?") < -30);
+            due("is not so still", x.chance(0), 0);
+            due("a short LAW", Check.law(x, "stop " + i + " if near 2;"), 1);
+            due("is so", x.chance(0), i);
+            due("another one", Check.law(x, "stop 1 if not near 2;stop " + i + " if kind 0 and not (near 1 or not near 2);"), 2);
+            due("is so", x.chance(0), i);
+            due("it has no third line", x.repeals(2), -2);
+        }
+        for (int i = 1; i <= 8; i++) {
+            due("CARS", Check.scene(x, CAR.repeat(9 - i) + "old;"), 10 - i);
+            due("so many", x.count(1), 9 - i);
+            due("and no more", x.car(9 - i, 0), -2);
+            due("none", Check.scene(x, "gap 1;"), 1);
+            due("no TRAIT", x.count(2), 0);
+            due("no car", x.car(0, 0), -2);
+        }
     }
 
     /** With a FAULT THE SCENE and THE LAW stay, but THE TAPE is empty. */

@@ -34,7 +34,10 @@ public final class TickBoundsTest {
         triesBounds();
         runAndWatchBounds();
         oddsBounds();
+        runsAndOdds();
+        eightCars();
         bestBounds();
+        bestSets();
         backBounds();
         wiseBounds();
         blameBounds();
@@ -307,8 +310,9 @@ public final class TickBoundsTest {
         due("one that goes on", hiddenEnd("car 0 at 3 pace 1 kind 1;gap 1;waits 0;", "car 1 at 10 pace 5 kind 0;", ""), 1);
         // With PACE 2 it rolls at PACE 1 in TICK 1, and stands behind TICK 2; she looks in TICK 2.
         due("one that rolls still", hiddenEnd("car 0 at 4 pace 2 kind 1;", other, law), 1);
-        // DIST less than its own: the hidden one is at 2 when she looks, as the one that stands.
-        due("at the same DIST", hiddenEnd("car 0 at 2 pace 1 kind 1;", "car 1 at 3 pace 1 kind 0;", law), 1);
+        // DIST less than its own: behind TICK 1 the other one is at 3, or at 2 as the one that stands.
+        due("one yard nearer", hiddenEnd("car 0 at 2 pace 1 kind 1;", "car 1 at 6 pace 3 kind 0;", law), 2);
+        due("at the same DIST", hiddenEnd("car 0 at 2 pace 1 kind 1;", "car 1 at 4 pace 2 kind 0;", law), 1);
         due("one yard behind", with("lanes 2;car 0 at 1 pace 1 kind 1;car 1 at 4 pace 2 kind 0;gap 20;", law).run(1, 0), 2);
         due("one yard ahead", with("lanes 2;car 0 at 3 pace 1 kind 1;car 1 at 4 pace 2 kind 0;gap 20;", law).run(1, 1), 3);
         // Neither in its own lane, nor behind it, nor two lanes ahead.
@@ -371,6 +375,12 @@ public final class TickBoundsTest {
         due("at 3", dist(f, 1, 1), 3);
         due("no more in TICK 2", held(f, 2, 1), 0);
         due("it goes", dist(f, 2, 1), -1);
+        // HELD in TICK 1, beyond SIGHT; it decides to stop in TICK 2, and who stops isn't HELD.
+        FootOut s = with("car 0 at 10 pace 3 kind 1;car 0 at 12 pace 4 kind 0;gap 20;sight 10;", ALL);
+        due("HELD in TICK 1", held(s, 1, 1), 1);
+        due("at 10", dist(s, 1, 1), 10);
+        due("it stops in TICK 2", mind(s, 2, 1), STOPS);
+        due("no more HELD", held(s, 2, 1), 0);
         due("an undecided one is HELD too", with("lanes 2;car 0 at 10 pace 1 kind 1;car 0 at 14 pace 9 kind 0;car 1 at 20 pace 1 kind 0;gap 20;sight 10;",
                 ALL).watch(1, 1, 1, 0), 12);
     }
@@ -393,6 +403,21 @@ public final class TickBoundsTest {
         due("of like ones the first goes first", dist(y, 1, 0), 1);
         FootOut z = with("lanes 2;car 0 at 10 pace 1 kind 1;car 0 at 10 pace 9 kind 0;car 1 at 20 pace 1 kind 0;gap 20;", "stop 100 if kind 1;");
         due("and the second is HELD", dist(z, 1, 1), 10);
+        // So in each TICK: car 1 stands at 10 all the time, car 0 comes from behind it.
+        FootOut e = with("lanes 2;car 0 at 30 pace 3 kind 0;car 0 at 10 pace 1 kind 1;car 1 at 20 pace 1 kind 0;gap 20;", "stop 100 if kind 1;");
+        for (int t = 0; t <= 10; t++) {
+            due("behind " + t, dist(e, t, 0), Math.max(12, 30 - 3 * t));
+            due("HELD behind " + t, held(e, t, 0), t > 6 ? 1 : 0);
+        }
+        // Alike behind TICK 1, by numbers in TICK 2, whoever was ahead before.
+        String end = "car 1 at 20 pace 1 kind 0;gap 20;sight 10;";
+        FootOut a = with("lanes 2;car 0 at 12 pace 2 kind 0;car 0 at 11 pace 1 kind 1;" + end, "stop 100 if kind 1;");
+        due("the first goes on", dist(a, 2, 0), 8);
+        due("the second stands", dist(a, 2, 1), 10);
+        FootOut b = with("lanes 2;car 0 at 12 pace 2 kind 1;car 0 at 11 pace 1 kind 0;" + end, "stop 100 if kind 1;");
+        due("the first stops", dist(b, 2, 0), 9);
+        due("the second is HELD", held(b, 2, 1), 1);
+        due("where it was", dist(b, 2, 1), 10);
         // By the DIST of this TICK, not as told: car 0 passes car 1 in TICK 1, and stops ahead of it.
         FootOut p = with("lanes 2;car 0 at 45 pace 9 kind 1;car 0 at 40 pace 1 kind 0;car 1 at 20 pace 1 kind 0;gap 20;sight 39;", "stop 100 if kind 1;");
         due("it has passed", dist(p, 1, 0), 36);
@@ -656,6 +681,69 @@ public final class TickBoundsTest {
         }
     }
 
+    /** RUNS and ODDS, asked one behind the other, of one SCENE behind the other, don't disturb one another. */
+    private static void runsAndOdds() {
+        FootOut x = with("car 0 at 1 pace 1 kind 0;car 0 at 1 pace 1 kind 0;gap 0;waits 0;", "stop 30 if lane 0;");
+        for (int seed = 0; seed < 20; seed++) {
+            int first = x.run(seed, 4);
+            x.set(2, seed);
+            due("KNOCKED", x.odds(1), 7000);
+            due("of as many", x.odds(5), 10000);
+            due("the first stops", x.blame(0, 1), 3000);
+            due("the second stops", x.blame(1, 1), 3000);
+            due("the first knocks her down", x.blame(0, 0), 7000);
+            due("the RUN as it was", x.run(seed, 4), first);
+            due("if old", x.helps(0), 0);
+            due("without the first", x.absent(0), 0);
+        }
+        Check.scene(x, "car 0 at 1 pace 1 kind 0;car 0 at 200 pace 1 kind 0;");
+        due("it stops", x.blame(0, 1), 3000);
+        due("the second no more", x.blame(1, 1), 0);
+        due("nor does it knock her down", x.blame(0, 0), 0);
+    }
+
+    /** All that is asked of a car, and by cars of one another, with eight of them. */
+    private static void eightCars() {
+        StringBuilder scene = new StringBuilder("lanes 4;gap 20;waits 60;sight 200;");
+        for (int c = 0; c < 8; c++) {
+            scene.append("car ").append(c % 4).append(" at ").append(20 + 10 * c).append(" pace 2 kind ").append(c % 3).append(";");
+        }
+        FootOut x = with(scene.toString(), "stop 0 if kind 1;stop 100 if ahead;stop 100 if beside;stop 0 if passed;");
+        due("none stops", x.run(1, 4), 0);
+        Check.law(x, "stop 100 if passed;");
+        due("0 goes on, and 4 behind it", x.run(1, 4), 255 - (1 << 0) - (1 << 4));
+        Check.law(x, "stop 100 if kind 2 or ahead;");
+        due("2, behind it 6, and 5", x.run(1, 4), 1 << 2 | 1 << 5 | 1 << 6);
+        Check.law(x, "stop 100 if kind 2 or beside;");
+        due("2, beside it 3, then 4 by none, 5 by itself, 6 and 7", x.run(1, 4), 1 << 2 | 1 << 3 | 1 << 5 | 1 << 6 | 1 << 7);
+        Check.law(x, "stop 50 if lane 0;stop 50 if lane 1;");
+        x.trait(0, true);
+        due("PARTS", x.odds(0) + x.odds(1) + x.odds(2), 10000000000000000L);
+        Check.law(x, "");
+        due("the nearest in her lane", x.margin(1), -1);
+        Check.scene(x, "old;" + "car 0 at 100 pace 1 kind 0;".repeat(8));
+        due("the nearest of eight", x.margin(1), 99);
+    }
+
+    /** Promise 16: TRAITS that THE LAW doesn't ask for count by what they do; told ones are taken away. */
+    private static void bestSets() {
+        // She is over in TICK 1, an old one is in the LANE still when the car comes.
+        due("not old", with("car 0 at 6 pace 3 kind 0;gap 0;", "").best(1), 2);
+        due("no more old", with("car 0 at 6 pace 3 kind 0;gap 0;old;", "").best(1), 1);
+        due("hump: it can stop", with("car 0 at 9 pace 9 kind 0;gap 20;waits 0;", ALL).best(1), 64);
+        due("pram no more", with("car 0 at 3 pace 3 kind 0;gap 20;waits 0;pram;", "stop 0 if pram;stop 50 if lane 0;").best(1), 2);
+        due("pram no more, and eye", with("car 0 at 3 pace 3 kind 0;gap 20;waits 0;pram;", "stop 0 if pram;stop 50 if eye;").best(2), 10);
+        // Each TRAIT otherwise is worse: of these the least bad, and no set of fewer.
+        String all = "pram;foot;eye;two;lamp;paint;";
+        String law = "stop 90 if pram and foot and eye and two and lamp and paint and not old and not hump;"
+                + "stop 10 if not eye;stop 20 if not lamp and not eye;stop 60 if not two;";
+        FootOut x = with("car 0 at 3 pace 3 kind 0;gap 20;waits 0;" + all, law);
+        due("none", x.best(0), 0);
+        due("the least bad", x.best(1), 16);
+        due("old would be worse", x.best(2), 2 | 16);
+        due("the least bad three", x.best(3), 2 | 4 | 16);
+    }
+
     /** Promise 17: LINE 0 to 30, at most so many of a thousand. */
     private static void backBounds() {
         FootOut x = with("car 0 at 1 pace 1 kind 0;gap 0;waits 0;", "stop 25 if near 2;");
@@ -671,6 +759,20 @@ public final class TickBoundsTest {
         due("LINE stays", x.count(3), 0);
         due("NONE is no refusal", x.status(0), 0);
         due("without cars", new FootOut().back(0), 0);
+        due("without cars", new FootOut().back(1000), 0);
+        // Car 0 holds all others or knocks her down: 75 of 100, of whatever PARTS there are; 749 and 751 are no fewer PARTS of 100.
+        StringBuilder scene = new StringBuilder("gap 0;waits 0;");
+        for (int cars = 1; cars <= 8; cars++) {
+            scene.append("car 0 at 1 pace 1 kind 0;");
+            FootOut of = with(scene.toString(), "stop 25 if near 2;");
+            due("750 of " + cars, of.back(750), 0);
+            due("751 of " + cars, of.back(751), 0);
+            due("749 of " + cars, of.back(749), -1);
+            due("740 of " + cars, of.back(740), -1);
+            Check.law(of, "stop 99 if near 2;");
+            due("10 of " + cars, of.back(10), 0);
+            due("9 of " + cars, of.back(9), -1);
+        }
         // 36 yards are needed: with a LINE of 1 it can't stop, so it is gone when she steps out.
         FootOut y = with("car 0 at 3 pace 1 kind 0;gap 0;", ALL);
         y.set(0, 30);
@@ -701,6 +803,35 @@ public final class TickBoundsTest {
         due("an old one needs GAP 2", y.wise(1), 2);
         Check.scene(y, "car 0 at 3 pace 1 kind 0;old;");
         due("by then she is over", y.wise(1), 0);
+        wiseAtTheEnds();
+    }
+
+    /** The greatest WAITS and GAP may be the only ones by which she comes over. */
+    private static void wiseAtTheEnds() {
+        // Cars of both lanes keep her back till TICK 60. If she is behind lane 0 by then, car 6 stops at 1, stands and hides
+        // car 7, which knocks her down in TICK 61; if she is at the kerb still, both go by.
+        StringBuilder scene = new StringBuilder("lanes 2;gap 20;sight 1;");
+        for (int lane = 0; lane < 2; lane++) {
+            for (int dist = 20; dist <= 60; dist += 20) {
+                scene.append("car ").append(lane).append(" at ").append(dist).append(" pace 1 kind 0;");
+            }
+        }
+        scene.append("car 0 at 60 pace 1 kind 1;car 1 at 183 pace 3 kind 0;");
+        FootOut x = with(scene.toString(), "stop 100 if in and kind 1;");
+        due("wise(0)", x.wise(0), 60);
+        x.set(2, 59);
+        due("with 59 none", x.odds(0), 0);
+        x.set(2, 60);
+        due("with 60 all", x.odds(0), x.odds(5));
+        x.set(2, 20);
+        due("with 20 hidden", x.run(1, 3), 7);
+        // GAP 20 keeps her back from car 0; else she is behind lane 0 in TICK 2, so car 1 stops, and comes to 0.
+        FootOut y = with("lanes 2;car 0 at 20 pace 1 kind 0;car 1 at 3 pace 2 kind 0;sight 2;", "stop 100 if in and lane 1;");
+        due("wise(1)", y.wise(1), 20);
+        y.set(1, 19);
+        due("with 19 none", y.odds(0), 0);
+        y.set(1, 20);
+        due("with 20 all", y.odds(0), y.odds(5));
     }
 
     private static void blameBounds() {
@@ -777,11 +908,38 @@ public final class TickBoundsTest {
         due("of none", new FootOut().absent(0), -2);
         FootOut e = with("car 0 at 1 pace 1 kind 0;".repeat(8) + "gap 0;waits 0;", "");
         due("of eight", e.absent(7), 0);
+        withoutEach();
         due("the only one", with("car 0 at 1 pace 1 kind 0;gap 0;waits 0;", "").absent(0), -100);
         // -2 may be a sum as well: then it isn't counted.
         FootOut two = with("car 0 at 1 pace 1 kind 0;gap 0;waits 0;", "stop 98 if near 2;");
         due("two PARTS less", two.absent(0), -2);
         due("not counted", two.status(0), 0);
+    }
+
+    /** Without a car all others are as they were: their lanes, DIST, PACE and KIND. */
+    private static void withoutEach() {
+        String[][] scenes = {
+            {"lanes 3;old;gap 2;waits 2;", "car 0 at 5 pace 3 kind 0;", "car 0 at 1 pace 2 kind 1;", "car 1 at 18 pace 3 kind 0;",
+                "car 0 at 3 pace 2 kind 2;", "car 0 at 14 pace 7 kind 3;", "car 0 at 20 pace 5 kind 3;"},
+            {"lanes 2;old;gap 1;waits 2;", "car 1 at 3 pace 3 kind 2;", "car 1 at 4 pace 3 kind 3;", "car 0 at 5 pace 6 kind 1;",
+                "car 0 at 10 pace 7 kind 2;", "car 1 at 11 pace 2 kind 1;", "car 1 at 25 pace 6 kind 3;"},
+            {"lanes 2;old;gap 1;waits 2;", "car 1 at 21 pace 7 kind 2;", "car 0 at 6 pace 3 kind 3;", "car 1 at 2 pace 2 kind 1;",
+                "car 0 at 1 pace 1 kind 3;", "car 0 at 4 pace 1 kind 0;", "car 1 at 18 pace 1 kind 2;"}};
+        String law = "stop 80 if kind 1;stop 40 if kind 2 or ahead;stop 30 if near 20 and not fast 6;stop 10 if lane 1;";
+        int differ = 0;
+        for (String[] scene : scenes) {
+            FootOut x = with(String.join("", scene), law);
+            for (int c = 0; c + 1 < scene.length; c++) {
+                StringBuilder without = new StringBuilder();
+                for (int i = 0; i < scene.length; i++) {
+                    without.append(i == c + 1 ? "" : scene[i]);
+                }
+                long due = 100 * with(without.toString(), law).odds(1) - x.odds(1);
+                differ += due != 0 ? 1 : 0;
+                due("without " + c + " of " + String.join("", scene), x.absent(c), due);
+            }
+        }
+        due("all make a difference", differ, 18);
     }
 
     /** Promise 23: above 0, of her lane, at the end of a TICK in a LANE. */
