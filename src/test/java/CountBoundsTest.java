@@ -104,6 +104,7 @@ public final class CountBoundsTest {
             stop = x.fine(stop, 0, 1, 1);
         }
         due("near by as much", stop, 99);
+        due("the most months that any FINE needs", months, 282);
         due("NONE is no refusal", x.status(1), 0);
         for (int bad : beyond(0, 1000)) {
             due("now " + bad, x.until(bad, 0, 0, 0), -3);

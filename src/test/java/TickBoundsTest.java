@@ -773,7 +773,15 @@ public final class TickBoundsTest {
             due("10 of " + cars, of.back(10), 0);
             due("9 of " + cars, of.back(9), -1);
         }
-        // 36 yards are needed: with a LINE of 1 it can't stop, so it is gone when she steps out.
+        // Only if both stop, with 27 and 37 of 100, she is OVER: 9001 of 10000 are KNOCKED, which is more than 900 of a thousand.
+        String two = "lanes 2;gap 0;waits 0;car 0 at 1 pace 1 kind 0;car 1 at 2 pace 1 kind 0;";
+        String law = "stop 27 if lane 0;stop 37 if lane 1;";
+        due("9001 of 10000", with(two, law).odds(1), 9001);
+        for (int more = 0; more <= 6; more++) {
+            FootOut of = with(two + "car 1 at 200 pace 1 kind 0;".repeat(more), law);
+            due("900 with " + more + " more", of.back(900), -1);
+            due("901 with " + more + " more", of.back(901), 0);
+        }
         FootOut y = with("car 0 at 3 pace 1 kind 0;gap 0;", ALL);
         y.set(0, 30);
         due("the LINE as it is doesn't matter", y.back(0), 0);
