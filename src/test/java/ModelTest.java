@@ -17,6 +17,9 @@ public final class ModelTest {
         {"car 0 at 1 pace 2 kind 2;car 0 at 39 pace 2 kind 2;car 0 at 58 pace 2 kind 2;car 0 at 27 pace 1 kind 1;old;gap 8;sight 22;",
             "stop 62 if not in;stop 0 if kind 1;"}};
     private static final Random RANDOM = new Random(20261118);
+    /** What the RUNS came to, as tests of what hardly ever is would tell little. */
+    private static final int[] ended = new int[4];
+    private static int held;
 
     public static void main(String[] args) throws Model.Fault {
         for (int i = 0; i < 6000; i++) {
@@ -26,12 +29,19 @@ public final class ModelTest {
             int cars = i % 50 == 0 ? 8 : RANDOM.nextInt(6);
             goesAlike(sceneText(cars), lawText());
         }
+        for (int i = 0; i < 1500; i++) {
+            goesAlike(i % 15 == 0 ? slowText() : tightText(i % 50 == 1 ? 8 : 1 + below(5)), lawText());
+        }
         for (String[] far : FAR) {
             goesAlike(far[0], far[1]);
             Model m = Model.readScene(far[0]);
             m.law = Model.readLaw(far[1]);
             searchesAlike(Check.with(far[0], far[1]), m, " of far '" + far[0] + "'");
         }
+        for (int end = 1; end < 4; end++) {
+            Check.isTrue("only " + ended[end] + " RUNS end by " + end, ended[end] > 100);
+        }
+        Check.isTrue("only " + held + " cars are HELD", held > 100);
         Check.end();
     }
 
@@ -56,6 +66,38 @@ public final class ModelTest {
         s.append(below(2) == 0 ? "waits " + below(61) + ";" : "");
         s.append(below(2) == 0 ? "sight " + (1 + below(below(2) == 0 ? 200 : 30)) + ";" : "");
         return s.toString();
+    }
+
+    /** Cars are near, queue in few lanes, and she does not wait for long. */
+    private static String tightText(int cars) {
+        StringBuilder s = new StringBuilder();
+        int lanes = 1 + below(3);
+        s.append("lanes ").append(lanes).append(";");
+        int far = below(2) == 0 ? 12 : 30;
+        for (int c = 0; c < cars; c++) {
+            s.append("car ").append(below(2) == 0 ? lanes - 1 : below(lanes)).append(" at ").append(1 + below(far));
+            s.append(" pace ").append(1 + below(below(2) == 0 ? 4 : 9)).append(" kind ").append(below(4)).append(";");
+        }
+        for (String trait : Model.TRAITS) {
+            s.append(below(trait.equals("old") ? 2 : 6) == 0 ? trait + ";" : "");
+        }
+        s.append(below(3) == 0 ? "line " + below(below(2) == 0 ? 6 : 31) + ";" : "");
+        s.append("gap ").append(below(2) == 0 ? below(3) : below(21)).append(";");
+        s.append("waits ").append(below(below(2) == 0 ? 4 : 12)).append(";");
+        s.append(below(2) == 0 ? "sight " + (1 + below(40)) + ";" : "");
+        return s.toString();
+    }
+
+    /** Cars crawl along in a row, and she needs long gaps: behind 99 TICKS she may not be over. */
+    private static String slowText() {
+        StringBuilder s = new StringBuilder("lanes 3;gap " + (18 + below(3)) + ";waits " + below(61) + ";sight " + (1 + below(4)) + ";");
+        int lane = 1 + below(2);
+        int at = 5 + below(16);
+        for (int c = 0; c < 7; c++) {
+            s.append("car ").append(lane).append(" at ").append(at).append(" pace 1 kind ").append(below(4)).append(";");
+            at += 14 + below(5);
+        }
+        return s.append(below(2) == 0 ? "old;" : "").toString();
     }
 
     private static String lawText() {
@@ -185,6 +227,7 @@ public final class ModelTest {
             harm += r.harm;
             ticks += r.ticks;
             ends[r.end]++;
+            ended[r.end]++;
         }
         for (int how = 1; how < 4; how++) {
             Check.due("tries " + how + of, x.tries(seed, 3, how), ends[how]);
@@ -199,6 +242,7 @@ public final class ModelTest {
                 Check.due("watch 1" + of, x.watch(seed, t, c.number, 1), c.pace);
                 Check.due("watch 2" + of, x.watch(seed, t, c.number, 2), c.mind);
                 Check.due("watch 3" + of, x.watch(seed, t, c.number, 3), c.held ? 1 : 0);
+                held += c.held ? 1 : 0;
             }
         }
     }
